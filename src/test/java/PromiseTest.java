@@ -842,6 +842,22 @@ public final class PromiseTest implements Words {
         x.due(NONE, x.apply(PAIR));
     }
 
+    @Says(promise = 14, words = "The RULES are APPLIED to a THING: the RULE that was USED; NONE; a FINDING of its ACT.")
+    static void applyAnswersTheRuleAfterEachAct() {
+        int[] first = {NONE, MARKS, PAIR, PAIR, NONE, INTS};
+        for (int act = NO_ACT; act <= GROW; act++) {
+            Run x = Run.withAllForms();
+            x.hold(0, first[act]);
+            x.hold(1, SEAL);
+            int nothing = x.pattern(IS_NOTHING, 0, 0, 0);
+            for (int r = 0; r < 15; r++) {
+                x.rule(nothing, act, MARKS, 0);
+            }
+            x.rule(x.anyThing(), act, MARKS, 0);
+            x.due(15, x.apply(MARK));
+        }
+    }
+
     @Says(promise = 14, words = "UNKNOWN.")
     static void applyAsksForTheThing() {
         Run x = Run.withAllForms();
@@ -929,7 +945,10 @@ public final class PromiseTest implements Words {
         x.due(2, x.count(STEPS));
         x.match(any, MARK);
         x.due(1, x.count(STEPS));
-        x.match(2, MARK);
+        x.due(UNKNOWN, x.match(2, MARK));
+        x.due(1, x.count(STEPS));
+        // Without rules there is no match, so that the latest one stays the latest.
+        x.due(NONE, x.apply(MARK));
         x.due(1, x.count(STEPS));
     }
 
@@ -1035,34 +1054,44 @@ public final class PromiseTest implements Words {
     @Says(promise = 17, words = "All is as at the beginning: how many THINGS there were.")
     static void clearedThingsAreMadeAnew() {
         Run x = new Run();
-        for (int t = 0; t < 3; t++) {
-            x.row(SHEET, 6);
-            x.row(INTS, 6);
-            x.thing(PAIR, 0);
-            for (int i = 0; i < 6; i++) {
-                x.put(3 * t + 1, INTS, i, 9);
-                x.lay(3 * t, SHEET, i, 3 * t + 1);
-            }
-            x.half(3 * t + 2, 0, 0);
-            x.half(3 * t + 2, 1, 0);
+        fillSixThings(x);
+        x.due(6, x.clear());
+        // What was a row of numbers is one again, and each number changes its form once.
+        x.row(INTS, 6);
+        x.row(INTS, 6);
+        x.row(SHEET, 6);
+        x.row(SHEET, 6);
+        x.thing(PAIR, 0);
+        x.thing(PAIR, 0);
+        for (int i = 0; i < 6; i++) {
+            x.due(0, x.number(0, INTS, i));
+            x.due(0, x.number(1, INTS, i));
+            x.due(NONE, x.at(2, SHEET, i));
+            x.due(NONE, x.at(3, SHEET, i));
         }
-        x.due(9, x.clear());
-        for (int t = 0; t < 3; t++) {
-            x.row(INTS, 6);
-            x.thing(PAIR, 0);
-            x.row(SHEET, 6);
-            for (int i = 0; i < 6; i++) {
-                x.due(0, x.number(3 * t, INTS, i));
-                x.due(NONE, x.at(3 * t + 2, SHEET, i));
-            }
-            x.due(NONE, x.at(3 * t + 1, PAIR, 0));
-            x.due(NONE, x.at(3 * t + 1, PAIR, 1));
+        for (int side = 0; side < 2; side++) {
+            x.due(NONE, x.at(4, PAIR, side));
+            x.due(NONE, x.at(5, PAIR, side));
         }
-        x.due(9, x.clear());
-        for (int t = 0; t < 9; t++) {
-            x.thing(PAIR, 0);
-            x.due(NONE, x.at(t, PAIR, 0));
-            x.due(NONE, x.at(t, PAIR, 1));
+    }
+
+    /** Two rows of numbers, two sheets and two pairs that stand mixed and hold something everywhere. */
+    static void fillSixThings(Run x) {
+        x.row(INTS, 6);
+        x.row(SHEET, 6);
+        x.row(INTS, 6);
+        x.row(SHEET, 6);
+        x.thing(PAIR, 0);
+        x.thing(PAIR, 0);
+        for (int i = 0; i < 6; i++) {
+            x.put(0, INTS, i, 9);
+            x.lay(1, SHEET, i, 0);
+            x.put(2, INTS, i, 9);
+            x.lay(3, SHEET, i, 2);
+        }
+        for (int side = 0; side < 2; side++) {
+            x.half(4, side, 1);
+            x.half(5, side, 4);
         }
     }
 
