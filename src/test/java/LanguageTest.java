@@ -12,13 +12,11 @@ import java.util.regex.Pattern;
 /** The face of the class and the rules of LANGUAGE.md that can be read off it; run from the project's folder. */
 public final class LanguageTest {
     static final String SOURCE = "src/main/java/ThingRules.java";
-    static final String[] FACE = {
-        "int thing(int, int)", "int row(int, int)", "int lay(int, int, int, int)", "int half(int, int, int)",
-        "int put(int, int, int, long)", "long number(int, int, int) ClassCastException ArrayIndexOutOfBoundsException",
-        "int at(int, int, int)", "int is(int, int)", "int pattern(int, int, int, int)", "int match(int, int)", "int slot(int)",
-        "int rule(int, int, int, int)", "int apply(int)", "int told(int, int)", "int count(int)", "int clear()"
-    };
-    static final String[] CONSTANTS = {"UNKNOWN", "OUTSIDE", "FULL", "NONE"};
+    static final Path DOCUMENT = Path.of("../shared/DOC.md");
+    static final int METHODS = 16;
+    static final Pattern FACE = Pattern.compile("(?s)\n## The public face\\s+```java\n(.*?)```");
+    static final Pattern METHOD = Pattern.compile("public (int|long) (\\w+)\\(([^)]*)\\)(?: throws ([^;]*))?;");
+    static final Pattern CONSTANTS = Pattern.compile("public static final int ([^;]*);");
     static final String[] NOT_ALLOWED = {
         "\\bimport\\b", "\\bpackage\\b", "\\btry\\b", "\\bcatch\\b", "\\bfinally\\b", "\\bsynchronized\\b", "\\bassert\\b", "->", "::",
         "\\bSystem\\.(?!arraycopy)", "\\bThread\\b", "\\bRandom\\b", "\\bequals\\b", "\\bhashCode\\b", "\\btoString\\b", "Exact\\b",
@@ -48,7 +46,29 @@ public final class LanguageTest {
         return text.toString();
     }
 
-    static void methods() {
+    /** What the document writes between the marks of its face. */
+    static String face() throws Exception {
+        Matcher face = FACE.matcher(Files.readString(DOCUMENT));
+        return face.find() ? face.group(1) : "";
+    }
+
+    static TreeSet<String> methodsOf(String face) {
+        TreeSet<String> all = new TreeSet<>();
+        Matcher m = METHOD.matcher(face);
+        while (m.find()) {
+            String taken = m.group(3).replaceAll(" \\w+(,|$)", "$1");
+            String thrown = m.group(4) == null ? "" : " " + m.group(4).replace(",", "");
+            all.add(m.group(1) + " " + m.group(2) + "(" + taken + ")" + thrown);
+        }
+        return all;
+    }
+
+    static TreeSet<String> constantsOf(String face) {
+        Matcher m = CONSTANTS.matcher(face);
+        return new TreeSet<>(Arrays.asList(m.find() ? m.group(1).split(", ") : new String[0]));
+    }
+
+    static void methods() throws Exception {
         TreeSet<String> open = new TreeSet<>();
         TreeSet<String> openNames = new TreeSet<>();
         for (Method m : ThingRules.class.getDeclaredMethods()) {
@@ -58,7 +78,8 @@ public final class LanguageTest {
                 due(m + " is public", Modifier.isPublic(m.getModifiers()) && !Modifier.isStatic(m.getModifiers()), true);
             }
         }
-        due("the face", open, new TreeSet<>(Arrays.asList(FACE)));
+        due("the face", open, methodsOf(face()));
+        due("methods of the face", open.size(), METHODS);
         for (Method m : ThingRules.class.getDeclaredMethods()) {
             if (Modifier.isPrivate(m.getModifiers())) {
                 due("a private method bears the name " + m.getName(), openNames.contains(m.getName()), false);
@@ -67,17 +88,18 @@ public final class LanguageTest {
         }
     }
 
-    static void fields() {
+    static void fields() throws Exception {
         TreeSet<String> open = new TreeSet<>();
         for (Field f : ThingRules.class.getDeclaredFields()) {
             if (!Modifier.isPrivate(f.getModifiers())) {
-                open.add(f.getName());
+                open.add(f.getName() + " = " + f.getInt(null));
+                due(f.getName() + " is public", Modifier.isPublic(f.getModifiers()), true);
             }
             if (Modifier.isStatic(f.getModifiers())) {
                 due(f.getName() + " is final", Modifier.isFinal(f.getModifiers()), true);
             }
         }
-        due("the constants", open, new TreeSet<>(Arrays.asList(CONSTANTS)));
+        due("the constants", open, constantsOf(face()));
     }
 
     static void classes() {
